@@ -105,7 +105,7 @@ public final class DawnTales {
             return STATE;
         }
         stand.remember();
-        stand.now.tellPart();
+        stand.now.tellParts(stand.now.innermost(), 1);
         return stand.now.hoursLeft;
     }
 
@@ -197,8 +197,9 @@ public final class DawnTales {
     }
 
     public int longer() {
+        int longerBest = rows.bestIfLonger(book);
         rows.know(book);
-        return rows.bestIfLonger(book) - rows.savedBy(rows.bestPlace());
+        return longerBest - rows.savedBy(rows.bestPlace());
     }
 
     // ---- what was heard
@@ -322,7 +323,7 @@ public final class DawnTales {
         stand.start(book);
         kept = 0;
         heardCount = 0;
-        rows.known = false;
+        rows.drop();
     }
 
     private boolean isAsHeard(int i) {
@@ -640,6 +641,7 @@ public final class DawnTales {
         int saved;
         boolean lives;
         int begun;
+        int openBits;
         int deep;
         final int[] open = new int[MOST_TALES];
         final int[] left = new int[MOST_TALES];
@@ -651,6 +653,7 @@ public final class DawnTales {
             saved = 0;
             lives = true;
             begun = 0;
+            openBits = 0;
             deep = 0;
             for (int t = 0; t < MOST_TALES; t++) {
                 left[t] = book.partsOf(t);
@@ -663,34 +666,31 @@ public final class DawnTales {
             saved = other.saved;
             lives = other.lives;
             begun = other.begun;
+            openBits = other.openBits;
             deep = other.deep;
             System.arraycopy(other.open, 0, open, 0, MOST_TALES);
             System.arraycopy(other.left, 0, left, 0, MOST_TALES);
             System.arraycopy(other.lastNight, 0, lastNight, 0, MOST_TALES);
         }
 
-        static boolean isPlace(int i) {
-            return i >= 0 && i < MOST_TALES;
-        }
-
         int leftOf(int t) {
-            return isPlace(t) ? left[t] : 0;
+            return t >= 0 && t < MOST_TALES ? left[t] : 0;
         }
 
         int lastNightOf(int t) {
-            return isPlace(t) ? lastNight[t] : 0;
+            return t >= 0 && t < MOST_TALES ? lastNight[t] : 0;
         }
 
         boolean isBegun(int t) {
-            return isPlace(t) && (begun >> t & 1) == 1;
+            return (begun >> t & 1) == 1;
         }
 
         int openAt(int place) {
-            return place >= 0 && place < deep && isPlace(place) ? open[place] : NONE;
+            return place >= 0 && place < deep && place < MOST_TALES ? open[place] : NONE;
         }
 
         int innermost() {
-            return isPlace(deep - 1) ? open[deep - 1] : NONE;
+            return deep > 0 && deep <= MOST_TALES ? open[deep - 1] : NONE;
         }
 
         int placeOf(int t) {
@@ -700,14 +700,6 @@ public final class DawnTales {
                 }
             }
             return NONE;
-        }
-
-        int openBits() {
-            int bits = 0;
-            for (int i = 0; i < deep; i++) {
-                bits |= bitOf(openAt(i));
-            }
-            return bits;
         }
 
         int endedBits() {
@@ -727,7 +719,7 @@ public final class DawnTales {
         }
 
         static int bitOf(int t) {
-            return isPlace(t) ? 1 << t : 0;
+            return t >= 0 && t < MOST_TALES ? 1 << t : 0;
         }
 
         boolean hasHour() {
@@ -738,7 +730,7 @@ public final class DawnTales {
             if (!hasHour() || !book.isTale(t) || isBegun(t) || deep >= book.depth) {
                 return false;
             }
-            int within = book.withinOf(t);
+            int within = book.within[t];
             return within == ANY || within == innermost();
         }
 
@@ -747,37 +739,39 @@ public final class DawnTales {
         }
 
         void beginTale(int t) {
-            if (!isPlace(t) || !isPlace(deep)) {
-                return;
+            if (t >= 0 && t < MOST_TALES && deep >= 0 && deep < MOST_TALES) {
+                begun |= 1 << t;
+                openBits |= 1 << t;
+                open[deep] = t;
+                deep++;
+                tellParts(t, 1);
             }
-            begun |= 1 << t;
-            open[deep] = t;
-            deep++;
-            tellPart();
         }
 
-        void tellPart() {
-            int t = innermost();
-            if (!isPlace(t)) {
-                return;
+        /** Of the innermost. */
+        void tellParts(int t, int many) {
+            if (t >= 0 && t < MOST_TALES) {
+                left[t] -= many;
+                lastNight[t] = night;
+                hoursLeft -= many;
+                if (left[t] <= 0) {
+                    openBits &= ~(1 << t);
+                    deep--;
+                }
             }
-            left[t]--;
-            lastNight[t] = night;
-            if (left[t] <= 0) {
-                deep--;
-            }
-            passHour();
         }
 
         void passHour() {
             hoursLeft--;
         }
 
+        /** Goes through the hours in which nothing else can come: a row goes on at a last part, or at one's end. */
         void goOn() {
             if (deep > 0) {
-                tellPart();
+                int t = innermost();
+                tellParts(t, Math.min(Math.max(leftOf(t) - 1, 1), hoursLeft));
             } else {
-                passHour();
+                hoursLeft = 0;
             }
         }
 
@@ -786,13 +780,9 @@ public final class DawnTales {
             return deep == 0 || leftOf(innermost()) == 1;
         }
 
+        /** What is open within another was told of later, so that the outermost is forgotten first. */
         boolean isForgotten(Book book) {
-            for (int i = 0; i < deep; i++) {
-                if (night - lastNightOf(openAt(i)) >= book.memory) {
-                    return true;
-                }
-            }
-            return false;
+            return night - lastNightOf(openAt(0)) >= book.memory;
         }
 
         boolean meetDawn(Book book) {
@@ -873,6 +863,8 @@ public final class DawnTales {
         final int[] row = new int[MOST_ROWS];
         final byte[] saved = new byte[MOST_ROWS];
         final long[] opened = new long[MOST_ROWS * WORDS];
+        /** By such a row she comes to no more of its tales, so that what more tales it has changes nothing. */
+        final boolean[] isStuck = new boolean[MOST_ROWS];
         int size;
         int fullFrom;
         boolean known;
@@ -882,6 +874,7 @@ public final class DawnTales {
         final long[] walkedOpen = new long[WORDS];
         final int[] order = new int[MOST_TALES];
         int orderSize;
+        int next;
         final Book longerBook = new Book();
 
         /** Whether the row is one of so many tales: its tales are the order to be walked then. */
@@ -916,10 +909,10 @@ public final class DawnTales {
         int walk(Book book) {
             Arrays.fill(walkedOpen, 0L);
             walker.start(book);
-            int next = 0;
+            next = 0;
             for (int d = 0; d < MOST_DAWNS; d++) {
-                next = walkNight(book, next);
-                long bits = walker.openBits();
+                walkNight(book);
+                long bits = walker.openBits;
                 if (!walker.meetDawn(book)) {
                     return d;
                 }
@@ -931,8 +924,7 @@ public final class DawnTales {
             return MOST_DAWNS;
         }
 
-        int walkNight(Book book, int from) {
-            int next = from;
+        void walkNight(Book book) {
             for (int h = 0; h < MOST_HOURS && walker.hoursLeft > 0; h++) {
                 int t = next >= 0 && next < orderSize && next < MOST_TALES ? order[next] : NONE;
                 if (walker.isPause() && walker.mayBegin(book, t)) {
@@ -942,7 +934,6 @@ public final class DawnTales {
                     walker.goOn();
                 }
             }
-            return next;
         }
 
         int walkOn(Book book, Telling now) {
@@ -958,19 +949,40 @@ public final class DawnTales {
             return MOST_DAWNS;
         }
 
+        void drop() {
+            known = false;
+            longerBest = NONE;
+        }
+
         /** Texts may be read often and seldom be asked about, so the rows are walked when first asked for. */
         void know(Book book) {
-            if (known) {
-                return;
+            if (!known) {
+                walkAll(book);
+                known = true;
             }
+        }
+
+        void walkAll(Book book) {
             list(book.tales);
+            int shorter = 0;
             for (int i = 0; i < size && i < MOST_ROWS; i++) {
-                spread(row[i], book.tales);
-                saved[i] = (byte) walk(book);
-                System.arraycopy(walkedOpen, 0, opened, i * WORDS, WORDS);
+                for (; shorter < i && row[shorter] != row[i] / 10; shorter++) {
+                }
+                if (isStuck[shorter] && shorter < i) {
+                    takeOver(shorter, i);
+                } else {
+                    spread(row[i], book.tales);
+                    saved[i] = (byte) walk(book);
+                    System.arraycopy(walkedOpen, 0, opened, i * WORDS, WORDS);
+                    isStuck[i] = next < orderSize;
+                }
             }
-            longerBest = NONE;
-            known = true;
+        }
+
+        void takeOver(int from, int to) {
+            saved[to] = saved[from];
+            System.arraycopy(opened, from * WORDS, opened, to * WORDS, WORDS);
+            isStuck[to] = true;
         }
 
         /** Each tale put behind each row of one tale fewer: so they come in the order of their figures. */
@@ -997,16 +1009,14 @@ public final class DawnTales {
             }
         }
 
-        /** The rows stay the same if nights are longer, only what comes by them is another. */
+        /** The rows are walked anew for it, so that what is known of them is lost. */
         int bestIfLonger(Book book) {
             if (longerBest == NONE) {
                 longerBook.copyFrom(book);
                 longerBook.lengthenNights();
-                longerBest = 0;
-                for (int i = 0; i < size; i++) {
-                    spread(rowAt(i), book.tales);
-                    longerBest = Math.max(longerBest, walk(longerBook));
-                }
+                walkAll(longerBook);
+                longerBest = savedBy(bestPlace());
+                known = false;
             }
             return longerBest;
         }

@@ -72,9 +72,24 @@ public final class HeardTest {
         C.due("surely(31)", x.surely(31), Check.BAD);
         DawnTales y = Check.told("n 1;t 3 9;t 3 9;");
         C.due("now one, now the other", y.surely(1), 0);
-        DawnTales z = Check.told("n 1;m 9;t 9 9;t 9 0;t 9 1;t 1 9;t 2 9;t 2 9;");
-        z.heard(11, 2);
-        C.due("dawn 11 has its own place", z.surely(11) == Check.NONE ? 1 : Integer.bitCount(z.surely(11)) <= 2 ? 1 : 0, 1);
+        lateDawns();
+    }
+
+    /** By 12 the second one is begun in the ninth night; the first one is forgotten at the seventeenth dawn. */
+    private static void lateDawns() {
+        DawnTales x = Check.told("n 1;m 9;t 9 9;t 9 0;");
+        for (int d = 1; d <= 30; d++) {
+            C.due("surely(" + d + ")", x.surely(d), d <= 8 ? 1 : d <= 16 ? 3 : Check.NONE);
+        }
+        C.due("orders(0): 12, and 21 by which she is never saved", x.orders(0), 2);
+        x.heard(8, 1);
+        x.heard(9, 2);
+        x.heard(11, 2);
+        x.heard(16, 2);
+        C.due("orders(0) of late dawns", x.orders(0), 1);
+        C.due("orders(1) of late dawns", x.orders(1), 12);
+        x.heard(17, 2);
+        C.due("orders(0) of one at which she is not saved", x.orders(0), 0);
     }
 
     private static void odds() {

@@ -124,6 +124,31 @@ public final class KindsTest {
         C.due("the image was not undone", x.tale(0, 2), 7);
         x.undo();
         C.due("nor what it knows", x.tale(0, 2), 8);
+        x.undo();
+        for (int i = 0; i < 5; i++) {
+            x.silent();
+        }
+        x.back(0);
+        C.due("what was done meanwhile is not what is undone", x.undo(), 1);
+        C.due("one part told once more", x.tale(0, 2), 8);
+        C.due("eight hours left", x.now(1), 8);
+        C.due("undo() to the beginning", x.undo(), 0);
+        C.due("nine hours left", x.now(1), 9);
+        x.back(0);
+        for (int i = 0; i < 7; i++) {
+            x.silent();
+        }
+        x.dawn();
+        x.tells();
+        C.due("ten to be undone", x.keep(1), 1);
+        x.silent();
+        x.silent();
+        x.back(1);
+        for (int i = 9; i >= 0; i--) {
+            C.due("undo() of ten as kept", x.undo(), i);
+        }
+        C.due("the first of eleven is lost, as kept", x.tale(0, 2), 8);
+        C.due("eight hours left then", x.now(1), 8);
     }
 
     private static void imagesKeepNothingElse() {

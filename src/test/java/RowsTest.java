@@ -119,6 +119,11 @@ public final class RowsTest {
         C.due("mind(3, 1)", x.mind(3, 1), 234);
         C.due("mind(30, 0)", x.mind(30, 0), Check.NONE);
         C.due("mind(30, 1)", x.mind(30, 1), Check.NONE);
+        DawnTales six = Check.told("n 9;m 9;t 9 9;t 9 9;t 9 9;t 9 9;t 9 9;t 9 9;");
+        C.due("mind(1, 0) of six", six.mind(1, 0), 2);
+        C.due("mind(4, 0) of six", six.mind(4, 0), 5);
+        C.due("mind(5, 0) of six", six.mind(5, 0), 6);
+        C.due("mind(5, 1) of six", six.mind(5, 1), 123456);
         C.due("mind(0, 0)", x.mind(0, 0), Check.BAD);
         C.due("mind(31, 0)", x.mind(31, 0), Check.BAD);
         C.due("mind(1, 2)", x.mind(1, 2), Check.BAD);
@@ -150,6 +155,10 @@ public final class RowsTest {
         C.due("by 10 hours", y.longer(), 0);
         DawnTales z = Check.told("n 1;m 1;t 9 9;t 9 0;t 9 1;d 1;");
         C.due("a depth of 1: 8 dawns, then 4", z.longer(), -4);
+        DawnTales more = Check.told("d 1;n 5;t 5 9;t 5 9;");
+        C.due("best(0) of five hours", more.best(0), 0);
+        C.due("the second one is begun in the sixth hour", more.longer(), 1);
+        C.due("best(0) after it is as before", more.best(0), 0);
         C.due("longer() of none", new DawnTales().longer(), 0);
     }
 

@@ -103,6 +103,10 @@ public final class TextTest {
         faulty("x;", 0);
         faulty("tt 1 9;", 0);
         faulty("nm 1;", 0);
+        faulty("tz 1 9;", 0);
+        faulty("ta 1 9;", 0);
+        faulty("m 3z", 3);
+        faulty("az", 0);
         faulty("T 1 9;", 0);
         faulty("{", 0);
         faulty("`", 0);
