@@ -4,6 +4,7 @@ public final class HeardTest {
 
     public static void main(String[] args) {
         heard();
+        forget();
         orders();
         surely();
         odds();
@@ -11,6 +12,7 @@ public final class HeardTest {
     }
 
     private static void heard() {
+        C.sentence("Promise 20", "HEARD: how much there is. BAD; FULL.");
         DawnTales x = new DawnTales();
         C.due("heard(0, 0)", x.heard(0, 0), Check.BAD);
         C.due("heard(31, 0)", x.heard(31, 0), Check.BAD);
@@ -25,13 +27,27 @@ public final class HeardTest {
         C.due("a seventh", x.heard(1, 1), Check.FULL);
         C.due("BAD ahead of FULL", x.heard(1, 7), Check.BAD);
         C.due("six still", x.count(4), 6);
+    }
+
+    private static void forget() {
+        C.sentence("Promise 21", "Nothing was HEARD: how much there was.");
+        DawnTales x = Check.told("n 3;t 4 9;t 2 9;");
+        C.due("forget() of nothing", x.forget(), 0);
+        for (int i = 0; i < 6; i++) {
+            x.heard(2, 1);
+        }
+        C.due("orders() of what can't be", x.orders(0), 0);
         C.due("forget()", x.forget(), 6);
+        C.due("how much there is", x.count(4), 0);
+        C.due("orders() of nothing heard", x.orders(0), 2);
         C.due("forget() again", x.forget(), 0);
-        C.due("heard after it", x.heard(1, 1), 1);
+        C.due("heard after it", x.heard(1, 2), 1);
+        C.due("orders() of what was heard since", x.orders(1), 21);
     }
 
     /** By 12 the first one is open at the first dawn, with a part left; by 21 both are. */
     private static void orders() {
+        C.sentence("Promise 22", "ORDERS: how many (what = 0), the first one (1; 0). BAD.");
         DawnTales x = Check.told("n 3;t 4 9;t 2 9;");
         C.due("orders(0)", x.orders(0), 2);
         C.due("orders(1)", x.orders(1), 12);
@@ -60,6 +76,7 @@ public final class HeardTest {
     }
 
     private static void surely() {
+        C.sentence("Promise 23", "SURELY, as bits; NONE. BAD.");
         DawnTales x = Check.told("n 3;t 4 9;t 2 9;");
         C.due("surely(1)", x.surely(1), 1);
         C.due("surely(2)", x.surely(2), Check.NONE);
@@ -93,6 +110,7 @@ public final class HeardTest {
     }
 
     private static void odds() {
+        C.sentence("Promise 24", "ODDS: upper (what = 0), lower number (1), in least terms. BAD.");
         DawnTales x = new DawnTales();
         odds(x, 0, 0, 1, 1);
         odds(x, 0, 9, 1, 1);

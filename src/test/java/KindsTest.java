@@ -13,10 +13,12 @@ public final class KindsTest {
     }
 
     private static void constants() {
+        C.sentence("The public face", "public static final int BAD = -1, STATE = -2, FULL = -3, NONE = -9;");
         C.due("BAD", DawnTales.BAD, -1);
         C.due("STATE", DawnTales.STATE, -2);
         C.due("FULL", DawnTales.FULL, -3);
         C.due("NONE", DawnTales.NONE, -9);
+        C.sentence("The constants", "`NO = -1000000`: What none is, where a number may be below 0.");
         C.due("NO", DawnTales.NO, -1000000);
     }
 
@@ -32,6 +34,7 @@ public final class KindsTest {
     }
 
     private static void mark() {
+        C.sentence("Promise 25", "MARK. NO: BAD.");
         DawnTales x = inTheMiddle();
         int[] first = {5, 12, 3, 24, 6, 6};
         int[] second = {2, 5, 1, 10, 4, 3};
@@ -49,6 +52,7 @@ public final class KindsTest {
     }
 
     private static void trace() {
+        C.sentence("Promise 29", "THE TRACE.");
         DawnTales x = inTheMiddle();
         long due = 0;
         long[] numbers = {1, 11, 101, 1011, 10101, 100001};
@@ -69,6 +73,7 @@ public final class KindsTest {
     }
 
     private static void images() {
+        C.sentence("Promise 26", "An IMAGE is kept: the NIGHT. BAD.");
         DawnTales x = inTheMiddle();
         C.due("keep(-1)", x.keep(-1), Check.BAD);
         C.due("keep(2)", x.keep(2), Check.BAD);
@@ -105,6 +110,7 @@ public final class KindsTest {
     }
 
     private static void imagesKeepUndone() {
+        C.sentence("Promise 27", "All of that becomes as an IMAGE has it: the NIGHT.");
         DawnTales x = Check.told("n 9;t 9 9;");
         x.begins(0);
         x.tells();
@@ -152,6 +158,7 @@ public final class KindsTest {
     }
 
     private static void imagesKeepNothingElse() {
+        C.sentence("Promise 27", "All of that becomes as an IMAGE has it");
         DawnTales x = Check.told("n 9;t 9 9;");
         x.heard(1, 1);
         x.type('m');

@@ -11,6 +11,7 @@ public final class ModelTest {
     private static String log;
 
     public static void main(String[] args) {
+        C.sentence("What it is", "An object is used for at most 512 calls after it has been made");
         int runs = args.length > 0 ? Integer.parseInt(args[0]) : 600;
         for (int run = 0; run < runs; run++) {
             r = new Random(run);
@@ -67,6 +68,9 @@ public final class ModelTest {
     }
 
     private static String text(int tales, boolean clean) {
+        if (r.nextInt(10) == 0) {
+            return longText(tales);
+        }
         StringBuilder s = new StringBuilder();
         int most = 1 + r.nextInt(9);
         if (r.nextInt(4) > 0) {
@@ -89,6 +93,15 @@ public final class ModelTest {
             s.append("t").append(r.nextBoolean() ? " " : "").append(1 + r.nextInt(most)).append(' ').append(within).append(';');
         }
         return clean ? s.toString() : spoilt(s);
+    }
+
+    /** Tales that may be told one after the other, each for eight nights, so that thirty dawns come. */
+    private static String longText(int tales) {
+        StringBuilder s = new StringBuilder("n 2 1 1 1 1 1 1 1;d1;");
+        for (int t = 0; t < tales; t++) {
+            s.append("t").append(r.nextInt(4) == 0 ? 1 + r.nextInt(9) : t == tales / 2 ? 1 : 9).append(" 9;");
+        }
+        return s.toString();
     }
 
     private static String spoilt(StringBuilder s) {

@@ -16,6 +16,7 @@ public final class RowsTest {
     }
 
     private static void on() {
+        C.sentence("Promise 13", "ON.");
         DawnTales x = Check.told("n 2;t 9 9;t 4 9;");
         C.due("on() with none open", x.on(), 0);
         x.begins(0);
@@ -39,6 +40,7 @@ public final class RowsTest {
     }
 
     private static void by() {
+        C.sentence("Promise 14", "BY a row. BAD (a figure of none, one twice).");
         DawnTales x = Check.told("n 2;t 3 9;t 3 0;t 1 9;");
         C.due("by(0)", x.by(0), 0);
         C.due("by(1): 3 parts in 2 hours", x.by(1), 1);
@@ -66,6 +68,7 @@ public final class RowsTest {
 
     /** The next one waits till one part is left of the innermost, and for its depth. */
     private static void byWaits() {
+        C.sentence("Promise 14", "BY a row.");
         DawnTales x = Check.told("n 1;m 9;d 1;t 3 9;t 3 9;");
         C.due("depth 1: the second may not be within", x.by(12), 2);
         DawnTales y = Check.told("n 1;m 9;d 2;t 3 9;t 3 9;");
@@ -75,6 +78,7 @@ public final class RowsTest {
     }
 
     private static void best() {
+        C.sentence("Promise 15", "BEST: DAWNS (what = 0), the row (1). BAD.");
         DawnTales x = Check.told("n 2;t 3 9;t 3 0;t 1 9;");
         C.due("best(0)", x.best(0), 3);
         C.due("best(1)", x.best(1), 123);
@@ -90,6 +94,7 @@ public final class RowsTest {
     }
 
     private static void fewest() {
+        C.sentence("Promise 16", "FEWEST: how many (what = 0), the row (1); NONE. BAD.");
         DawnTales x = Check.told("n 2;t 3 9;t 3 0;t 1 9;");
         C.due("fewest(0, 0)", x.fewest(0, 0), 0);
         C.due("fewest(0, 1)", x.fewest(0, 1), 0);
@@ -109,6 +114,7 @@ public final class RowsTest {
 
     /** By 12 two are open at the second dawn; by 234 the second one is alone at all three. */
     private static void mind() {
+        C.sentence("Promise 17", "MIND: how many (what = 0), the row (1); NONE. BAD.");
         DawnTales x = Check.told("n 1;m 3;t 2 9;t 2 9;t 1 1;t 1 9;");
         C.due("fewest(3, 0)", x.fewest(3, 0), 2);
         C.due("fewest(3, 1)", x.fewest(3, 1), 12);
@@ -131,6 +137,7 @@ public final class RowsTest {
     }
 
     private static void bars() {
+        C.sentence("Promise 18", "BARS; NONE. BAD (d 1 .. 30).");
         DawnTales x = Check.told("n 2;t 2 9;t 5 9;t 2 1;t 5 9;t 1 9;");
         C.due("bars(1): another does as well", x.bars(1), Check.NONE);
         C.due("bars(30): not with it, either", x.bars(30), Check.NONE);
@@ -146,6 +153,7 @@ public final class RowsTest {
     }
 
     private static void longer() {
+        C.sentence("Promise 19", "LONGER.");
         DawnTales x = Check.told("n 1;t 9 9;");
         C.due("longer(): 8 dawns, then 4", x.longer(), -4);
         C.due("longer() again", x.longer(), -4);
@@ -163,6 +171,7 @@ public final class RowsTest {
     }
 
     private static void nothingChanges() {
+        C.sentence("Terms 3", "(Nothing is changed.)");
         DawnTales x = Check.told("n 2 3;m 2;t 3 9;t 3 0;t 1 9;");
         x.begins(0);
         x.tells();

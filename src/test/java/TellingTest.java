@@ -20,6 +20,7 @@ public final class TellingTest {
     }
 
     private static void tale() {
+        C.sentence("Promise 5", "0 PARTS, 1 WITHIN (9: whichever), 2 PARTS LEFT, 3 whether BEGUN, 4 its place in OPEN (0: outermost; NONE), 5 the NIGHT in which it was told of last (NONE). BAD.");
         DawnTales x = Check.told("n 3;t 4 9;t 2 0;");
         due(x, 0, 4, 9, 4, 0, Check.NONE, Check.NONE);
         due(x, 1, 2, 0, 2, 0, Check.NONE, Check.NONE);
@@ -53,6 +54,7 @@ public final class TellingTest {
     }
 
     private static void begins() {
+        C.sentence("Promise 7", "BAD; STATE: she LIVES no more, no HOURS, it is BEGUN, too deep, not there.");
         DawnTales x = Check.told("n 3;t 4 9;t 1 9;t 2 9;");
         String before = Check.stateOf(x);
         refused("begins(-1)", x, x.begins(-1), Check.BAD, before);
@@ -74,6 +76,7 @@ public final class TellingTest {
     }
 
     private static void within() {
+        C.sentence("Promise 7", "not there.");
         DawnTales x = Check.told("n 9;t 4 9;t 3 0;t 1 1;t 2 0;");
         C.due("not there: none is open", x.begins(1), Check.STATE);
         x.begins(0);
@@ -87,6 +90,7 @@ public final class TellingTest {
     }
 
     private static void depth() {
+        C.sentence("Promise 7", "too deep");
         DawnTales x = Check.told("n 9;d 2;t 4 9;t 2 9;t 1 9;");
         x.begins(0);
         x.begins(1);
@@ -97,6 +101,7 @@ public final class TellingTest {
     }
 
     private static void tells() {
+        C.sentence("Promise 8", "TELLS: HOURS LEFT. STATE: she LIVES no more, no HOURS, none is OPEN.");
         DawnTales x = Check.told("n 3;t 2 9;t 9 9;");
         String before = Check.stateOf(x);
         refused("tells() with none open", x, x.tells(), Check.STATE, before);
@@ -111,6 +116,7 @@ public final class TellingTest {
     }
 
     private static void silent() {
+        C.sentence("Promise 9", "SILENT: HOURS LEFT. STATE: she LIVES no more, no HOURS.");
         DawnTales x = Check.told("n 2;t 2 9;");
         C.due("silent()", x.silent(), 1);
         C.due("silent() again", x.silent(), 0);
@@ -123,6 +129,7 @@ public final class TellingTest {
     }
 
     private static void dawn() {
+        C.sentence("Promise 10", "DAWN: 1: she is SAVED, 0: she LIVES no more.");
         DawnTales x = Check.told("n 1 2;t 2 9;");
         String before = Check.stateOf(x);
         refused("dawn() with hours", x, x.dawn(), Check.STATE, before);
@@ -146,6 +153,7 @@ public final class TellingTest {
 
     /** With memory 2 a tale is forgotten at the second dawn after the night in which it was told of. */
     private static void memory() {
+        C.sentence("Promise 10", "0: she LIVES no more.");
         DawnTales x = Check.told("n 1;m 2;t 9 9;t 9 9;");
         x.begins(0);
         C.due("told of this night", x.dawn(), 1);
@@ -169,6 +177,7 @@ public final class TellingTest {
     }
 
     private static void nightsComeRound() {
+        C.sentence("Promise 10", "1: she is SAVED");
         DawnTales x = Check.told("n 3 1 2;m 9;t 9 9;t 9 9;");
         int[] due = {3, 1, 2, 3, 1, 2};
         for (int night = 0; night < due.length; night++) {
@@ -184,44 +193,24 @@ public final class TellingTest {
         }
     }
 
-    /** Two tales of nine parts, told once in nine nights each, last to night 99. */
     private static void lastNight() {
-        DawnTales x = Check.told("n 2;m 9;t 9 9;t 9 9;");
-        for (int night = 0; night < 99; night++) {
-            spend(x, night);
-            C.due("dawn of night " + night, x.dawn(), 1);
-        }
+        C.sentence("Promise 10", "it is NIGHT 99.");
+        DawnTales x = Long99.night99();
         C.due("night 99", x.now(0), 99);
         C.due("saved 99 times", x.now(5), 99);
-        spend(x, 99);
-        C.due("one is open", x.now(2), 1);
+        C.due("tells() in night 99", x.tells(), 0);
         String before = Check.stateOf(x);
-        C.due("no dawn of night 99", x.dawn(), Check.STATE);
-        C.due("that changes nothing", before.equals(Check.stateOf(x)) ? 1 : 0, 1);
+        refused("dawn() of night 99", x, x.dawn(), Check.STATE, before);
         C.due("she lives", x.now(4), 1);
         C.due("nor is she saved by going on", x.on(), 0);
-        x.undo();
         x.undo();
         x.undo();
         C.due("night 98 again", x.now(0), 98);
         C.due("one dawn by going on", x.on(), 1);
     }
 
-    private static void spend(DawnTales x, int night) {
-        if (night == 0) {
-            x.begins(0);
-        } else if (night % 9 == 0) {
-            x.tells();
-        }
-        if (night == 72) {
-            x.begins(1);
-        }
-        while (x.now(1) > 0) {
-            x.silent();
-        }
-    }
-
     private static void undo() {
+        C.sentence("Promise 11", "UNDONE: how many more may be. STATE: none.");
         DawnTales x = Check.told("n 9;t 9 9;");
         C.due("undo() of nothing", x.undo(), Check.STATE);
         x.begins(0);
@@ -261,6 +250,7 @@ public final class TellingTest {
     }
 
     private static void undoOfEach() {
+        C.sentence("Promise 11", "UNDONE: how many more may be.");
         DawnTales x = Check.told("n 4 2;m 5;t 2 9;t 3 9;");
         String[] states = new String[8];
         states[0] = Check.stateOf(x);
@@ -284,6 +274,7 @@ public final class TellingTest {
     }
 
     private static void now() {
+        C.sentence("Promise 12", "0 NIGHT, 1 HOURS LEFT, 2 how many are OPEN, 3 the innermost (NONE), 4 whether she LIVES, 5 how often she was SAVED, 6 TALES at their END (bits), 7 TALES that may be begun now (bits). BAD.");
         DawnTales x = Check.told("n 4 3;t 3 9;t 2 0;t 1 9;t 1 1;");
         nowIs(x, 0, 4, 0, Check.NONE, 1, 0, 0, 5);
         x.begins(0);

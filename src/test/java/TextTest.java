@@ -16,6 +16,7 @@ public final class TextTest {
     }
 
     private static void newObject() {
+        C.sentence("Promise 1", "As told; no TALES, nights of 5 hours.");
         DawnTales x = new DawnTales();
         int[] counts = {0, 1, 3, 6, 0, 0, 0};
         for (int w = 0; w < counts.length; w++) {
@@ -37,6 +38,7 @@ public final class TextTest {
     }
 
     private static void type() {
+        C.sentence("Promise 2", "A byte (0 .. 255) comes to THE TEXT: how many it has. BAD; FULL.");
         DawnTales x = new DawnTales();
         C.due("type(-1)", x.type(-1), Check.BAD);
         C.due("type(256)", x.type(256), Check.BAD);
@@ -53,6 +55,7 @@ public final class TextTest {
     }
 
     private static void clear() {
+        C.sentence("Promise 3", "THE TEXT is empty: how many bytes it had.");
         DawnTales x = new DawnTales();
         Check.write(x, "t 1");
         C.due("clear()", x.clear(), 3);
@@ -64,6 +67,7 @@ public final class TextTest {
     }
 
     private static void goodTexts() {
+        C.sentence("Promise 4", "THE TEXT tells all, and is empty then: how many ITEMS.");
         good("", 0, 0, 1, 3, 6);
         good("     ", 0, 0, 1, 3, 6);
         good("t 3 9;", 1, 1, 1, 3, 6);
@@ -97,6 +101,7 @@ public final class TextTest {
     }
 
     private static void tokenFaults() {
+        C.sentence("Promise 4", "-10 less FAULT: nothing changes.");
         faulty(";", 0);
         faulty(" ; ", 1);
         faulty("5;", 0);
@@ -126,6 +131,7 @@ public final class TextTest {
     }
 
     private static void taleFaults() {
+        C.sentence("Promise 4", "-10 less FAULT: nothing changes.");
         faulty("t", 1);
         faulty("t  ", 3);
         faulty("t 1", 3);
@@ -150,6 +156,7 @@ public final class TextTest {
     }
 
     private static void otherFaults() {
+        C.sentence("Promise 4", "-10 less FAULT: nothing changes.");
         faulty("n", 1);
         faulty("n;", 1);
         faulty("n 5", 3);
@@ -185,6 +192,7 @@ public final class TextTest {
     }
 
     private static void faultChangesNothing() {
+        C.sentence("Promise 4", "-10 less FAULT: nothing changes.");
         DawnTales x = Check.told("n 2 3;m 2;d 4;t 3 9;t 2 0;");
         x.begins(0);
         x.heard(1, 1);
@@ -202,6 +210,7 @@ public final class TextTest {
     }
 
     private static void readAnew() {
+        C.sentence("Promise 4", "THE TEXT tells all, and is empty then");
         DawnTales x = Check.told("n 1;m 9;d 2;t 3 9;t 2 9;");
         x.begins(0);
         x.dawn();
@@ -231,6 +240,7 @@ public final class TextTest {
     }
 
     private static void hours() {
+        C.sentence("Promise 6", "HOURS of a NIGHT (0 .. 200). BAD.");
         DawnTales x = Check.told("n 4 1 9;");
         C.due("hours(0)", x.hours(0), 4);
         C.due("hours(1)", x.hours(1), 1);
@@ -243,6 +253,7 @@ public final class TextTest {
     }
 
     private static void count() {
+        C.sentence("Promise 28", "0 TALES, 1 nights that come round, 2 MEMORY, 3 DEPTH, 4 HEARD, 5 how many may be UNDONE, 6 bytes of THE TEXT. BAD.");
         DawnTales x = Check.told("n 4 1 9;m 5;d 2;t 9 9;t 9 9;t 9 9;");
         x.heard(1, 1);
         x.heard(1, 1);
