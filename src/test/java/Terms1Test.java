@@ -214,6 +214,7 @@ public final class Terms1Test {
         String blanks = " ".repeat(140);
         good(blanks + "t 9 9;t 1;".substring(0, 6) + "    ", 1);
         good("n 1;t 9 9;" + blanks, 2);
+        good(blanks + " ".repeat(10), 0);
         good(blanks + "t 1 9;d 6;", 2);
         faulty(blanks + "t 1 9;d 66", 148);
         faulty(" ".repeat(149) + ";", 149);

@@ -36,6 +36,7 @@ public final class Terms3Test {
         odds();
         oddsInLeastTerms();
         longer();
+        longerByATenthHour();
         longerBelow0();
         C.finish();
     }
@@ -512,6 +513,15 @@ public final class Terms3Test {
         C.due("longer()", x.longer(), 1);
         C.due("best(0) is as it was", x.best(0), 0);
         C.due("hours(0)", x.hours(0), 9);
+    }
+
+    /** Five tales of two parts take ten hours: in nine the last one is not at its end, in ten all are, by whichever row. */
+    private static void longerByATenthHour() {
+        C.sentence("Terms 3", "if each NIGHT were an hour longer");
+        DawnTales x = Check.told("n 9;t 2 9;t 2 9;t 2 9;t 2 9;t 2 9;");
+        C.due("best(1)", x.best(1), 12345);
+        C.due("in ten hours all are told", x.longer(), -1);
+        C.due("six take twelve", Check.told("n 9;t 2 9;t 2 9;t 2 9;t 2 9;t 2 9;t 2 9;").longer(), 0);
     }
 
     private static void longerBelow0() {

@@ -6,6 +6,7 @@ public final class TextTest {
         newObject();
         type();
         clear();
+        nothingOfOlderTexts();
         goodTexts();
         faultyTexts();
         faultChangesNothing();
@@ -64,6 +65,26 @@ public final class TextTest {
         Check.write(x, " 4;");
         C.due("only what came after clear is read", x.tales(), 1);
         C.due("it told the memory", x.count(2), 4);
+    }
+
+    /** A token at the text's end doesn't go on into bytes that stood there before. */
+    private static void nothingOfOlderTexts() {
+        C.sentence("Promise 3", "THE TEXT is empty");
+        String[][] texts = {{"m 34;", "m 3", "3"}, {"m  3;", "m", "1"}, {"m 3;nn", "m 3;n", "5"}, {"m 3 ;", "m 3", "3"}};
+        for (String[] t : texts) {
+            DawnTales x = new DawnTales();
+            Check.write(x, t[0]);
+            C.due("clear()", x.clear(), t[0].length());
+            Check.write(x, t[1]);
+            C.due("'" + t[1] + "' after '" + t[0] + "'", x.tales(), -10 - Integer.parseInt(t[2]));
+        }
+        C.sentence("Promise 4", "and is empty then");
+        DawnTales x = Check.told("t 1 9;n 1 1;m 3;");
+        Check.write(x, "t 1 9;n 1");
+        C.due("an end too early after a text that was read", x.tales(), -19);
+        x.clear();
+        Check.write(x, "t 1 9;");
+        C.due("an item alone after a text that was read", x.tales(), 1);
     }
 
     private static void goodTexts() {
